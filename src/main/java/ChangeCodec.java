@@ -48,9 +48,9 @@ public final class ChangeCodec {
 
     public ChangeCodec() {
         written = new Bytes(STREAM_ROOM);
-        given = new Bytes(STREAM_ROOM);
+        reader = new Reader();
+        given = reader.source;
         body = new Bytes(BODY_ROOM);
-        reader = new Reader(given);
         change = new Change();
         draft = new Change();
         begun = false;
@@ -168,7 +168,7 @@ public final class ChangeCodec {
             case 3:
                 return change.count;
             default:
-                return w >= ACTORS && w < 2 * ACTORS ? change.clockOf(w - ACTORS) : NONE;
+                return change.clockOf(w - ACTORS);
         }
     }
 
@@ -459,7 +459,7 @@ public final class ChangeCodec {
             Arrays.fill(clock, 0);
         }
 
-        /** The row holds 0 for the change's own actor, as the bytes do. */
+        /** NONE if there is no such actor. The row holds 0 for the change's own one, as the bytes do. */
         int clockOf(int a) {
             if (!Rules.isActor(a)) {
                 return NONE;
@@ -550,8 +550,8 @@ public final class ChangeCodec {
         int fault;
         int place;
 
-        Reader(Bytes source) {
-            this.source = source;
+        Reader() {
+            source = new Bytes(STREAM_ROOM);
             here = 0;
             end = NONE;
             fault = 0;

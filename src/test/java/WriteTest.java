@@ -30,6 +30,9 @@ public final class WriteTest {
         x.hangs(0, 0);
         x.hangs(7, 300);
         bytes("another clock", x, "02030a80ac0207" + body.substring(12, body.length() - 8));
+        x.hangs(1, 1);
+        x.hangs(3, 2);
+        bytes("small clocks", x, "02030a8a0102ac0207" + body.substring(12, body.length() - 8));
     }
 
     private static void letters() {
