@@ -238,6 +238,28 @@ public final class ReadTest {
         Expect.due("the change", Show.change(x), "-1,0,1,1,1,-1,-1,-1,-1,0,0,0,0,0,0,0,0,-1,[0,0,0,0,8,97]");
     }
 
+    /** What a read() answers does not hang on the one before it: all pairs of these, on one object and on a new one. */
+    private static void pairs() {
+        String body = "0001010001" + Reads.PUT_A;
+        String[] inputs = {"00", "0100", "0108", "0200", "020001", "0300018001", "80", "8080", "808001", "80808001",
+            "8080808001", "8080808080", "8900", "e907", "e80700", "08" + body, "09" + body, "0a" + body,
+            "09" + body + "00000000", Reads.FIRST, Reads.FIRST + "0100", Make.framed(Reads.HEAD + "01" + Reads.PUT_A)};
+        for (String first : inputs) {
+            for (String second : inputs) {
+                ChangeCodec x = Make.withInput(first);
+                x.read();
+                x.cut(0);
+                x.begin(1, 2, 3);
+                Make.give(x, Make.bytes(second));
+                ChangeCodec fresh = Make.withInput(second);
+                fresh.begin(1, 2, 3);
+                String what = "read() of " + second + " after " + first;
+                Expect.due(what, x.read(), fresh.read());
+                Expect.due(what, Show.all(x), Show.all(fresh));
+            }
+        }
+    }
+
     public static void main(String[] args) {
         lengths();
         lackingBytes();
@@ -249,6 +271,7 @@ public final class ReadTest {
         firstOfSeveral();
         goingOn();
         noTraces();
+        pairs();
         Expect.end();
     }
 }
