@@ -15,7 +15,7 @@ public final class AddTest {
     }
 
     private static void fine(int type, int object, long key, int kind, int value) {
-        ChangeCodec x = Make.begun(3, 1, 10);
+        Codec x = Make.begun(3, 1, 10);
         String call = call(type, object, key, kind, value);
         int[] answer = {0};
         Expect.dueFine(call, () -> answer[0] = x.add(type, object, key, kind, value));
@@ -27,7 +27,7 @@ public final class AddTest {
     }
 
     private static void wrong(int type, int object, long key, int kind, int value) {
-        ChangeCodec x = Make.begun(3, 1, 10);
+        Codec x = Make.begun(3, 1, 10);
         Expect.dueThrow(call(type, object, key, kind, value), x, IllegalArgumentException.class,
                 () -> x.add(type, object, key, kind, value));
     }
@@ -144,12 +144,12 @@ public final class AddTest {
     }
 
     private static void limits() {
-        ChangeCodec none = new ChangeCodec();
+        Codec none = new Codec();
         Expect.dueThrow("add without a change", none, IllegalStateException.class, () -> none.add(0, 0, A, 0, 0));
         Expect.dueThrow("a wrong add without a change", none, IllegalStateException.class,
                 () -> none.add(9, 0, A, 0, 0));
 
-        ChangeCodec x = Make.begun(5, 1, 20);
+        Codec x = Make.begun(5, 1, 20);
         for (int k = 0; k < 16; k++) {
             Expect.due("add " + k, x.add(0, 0, A, 2, k), Make.id(20 + k, 5));
         }
@@ -158,18 +158,18 @@ public final class AddTest {
         x.undo();
         Expect.due("a sixteenth again", x.add(2, Make.id(34, 5), 0, 0, 3), Make.id(35, 5));
 
-        ChangeCodec late = Make.begun(7, 1, 99999);
+        Codec late = Make.begun(7, 1, 99999);
         Expect.due("counter 99999", late.add(0, 0, A, 0, 0), Make.id(99999, 7));
         Expect.due("counter 100000", late.add(3, 0, Make.id(100000, 6), 0, 0), Make.id(100000, 7));
         Expect.dueThrow("counter 100001", late, IllegalArgumentException.class, () -> late.add(0, 0, A, 0, 0));
 
-        ChangeCodec last = Make.begun(7, 1, 99985);
+        Codec last = Make.begun(7, 1, 99985);
         for (int k = 0; k < 16; k++) {
             last.add(0, 0, A, 0, 0);
         }
         Expect.dueThrow("both exceptions", last, IllegalStateException.class, () -> last.add(0, 0, A, 0, 0));
 
-        ChangeCodec first = Make.begun(0, 1, 1);
+        Codec first = Make.begun(0, 1, 1);
         Expect.dueThrow("no ID is less than 8", first, IllegalArgumentException.class,
                 () -> first.add(2, 8, 0, 0, 0));
         Expect.due("the least ID", first.add(0, 0, A, 0, 0), 8);

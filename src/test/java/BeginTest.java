@@ -2,7 +2,7 @@
 public final class BeginTest {
     private static void fine(int actor, int seq, int counter) {
         String call = "begin(" + actor + ", " + seq + ", " + counter + ")";
-        ChangeCodec x = new ChangeCodec();
+        Codec x = new Codec();
         Expect.dueFine(call, () -> x.begin(actor, seq, counter));
         Expect.due(call + " actor", x.of(0), actor);
         Expect.due(call + " seq", x.of(1), seq);
@@ -15,9 +15,9 @@ public final class BeginTest {
 
     private static void wrong(int actor, int seq, int counter) {
         String call = "begin(" + actor + ", " + seq + ", " + counter + ")";
-        ChangeCodec empty = new ChangeCodec();
+        Codec empty = new Codec();
         Expect.dueThrow(call, empty, IllegalArgumentException.class, () -> empty.begin(actor, seq, counter));
-        ChangeCodec full = Make.longest();
+        Codec full = Make.longest();
         Expect.dueThrow(call, full, IllegalArgumentException.class, () -> full.begin(actor, seq, counter));
     }
 
@@ -36,7 +36,7 @@ public final class BeginTest {
         wrong(1, 1, 0);
         wrong(1, 1, 100001);
 
-        ChangeCodec x = Make.longest();
+        Codec x = Make.longest();
         x.write();
         x.turn();
         x.begin(2, 5, 9);

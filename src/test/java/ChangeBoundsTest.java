@@ -21,7 +21,7 @@ public final class ChangeBoundsTest {
 
     private static void begins(int actor, int seq, int counter) {
         String what = "actor " + actor + " seq " + seq + " counter " + counter;
-        ChangeCodec x = Make.longest();
+        Codec x = Make.longest();
         Expect.dueFine("begin with " + what, () -> x.begin(actor, seq, counter));
         Expect.due(what, x.of(0), actor);
         Expect.due(what, x.of(1), seq);
@@ -32,7 +32,7 @@ public final class ChangeBoundsTest {
 
     private static void beginThrows(int actor, int seq, int counter) {
         String call = "begin(" + actor + ", " + seq + ", " + counter + ")";
-        for (ChangeCodec x : new ChangeCodec[] {new ChangeCodec(), Make.begun(1, 2, 3), Make.longest()}) {
+        for (Codec x : new Codec[] {new Codec(), Make.begun(1, 2, 3), Make.longest()}) {
             Expect.dueThrow(call, x, IllegalArgumentException.class, () -> x.begin(actor, seq, counter));
         }
     }
@@ -75,7 +75,7 @@ public final class ChangeBoundsTest {
         faultIn("COUNTER 100001", 2, "04", "06", Make.u(100001), "00", "01", PUT_A);
     }
 
-    private static void hangs(ChangeCodec x, int actor, int n, boolean allowed) {
+    private static void hangs(Codec x, int actor, int n, boolean allowed) {
         String call = "hangs(" + actor + ", " + n + ")";
         String before = Show.all(x);
         Expect.due(call, x.hangs(actor, n), allowed);
@@ -89,7 +89,7 @@ public final class ChangeBoundsTest {
     /** A CLOCK is 0 .. 10000 for each other ACTOR; 0 has no bit and no bytes. */
     private static void clocks() {
         for (int own = 0; own <= 7; own++) {
-            ChangeCodec x = Make.begun(own, 50, 60);
+            Codec x = Make.begun(own, 50, 60);
             for (int a = 0; a <= 7; a++) {
                 if (a != own) {
                     clock(x, own, a);
@@ -100,7 +100,7 @@ public final class ChangeBoundsTest {
         }
     }
 
-    private static void clock(ChangeCodec x, int own, int a) {
+    private static void clock(Codec x, int own, int a) {
         for (int n : new int[] {0, 1, 9999, 10000}) {
             hangs(x, a, n, true);
         }
@@ -120,7 +120,7 @@ public final class ChangeBoundsTest {
     private static void ownClocks() {
         for (int own = 0; own <= 7; own++) {
             for (int seq : new int[] {1, 2, 10000}) {
-                ChangeCodec x = Make.begun(own, seq, 60);
+                Codec x = Make.begun(own, seq, 60);
                 Expect.due("the own CLOCK of SEQ " + seq, x.of(8 + own), seq - 1);
                 hangs(x, own, seq - 1, false);
                 hangs(x, own, 0, false);
@@ -136,8 +136,8 @@ public final class ChangeBoundsTest {
         }
     }
 
-    private static ChangeCodec withOperations(int counter, int n) {
-        ChangeCodec x = Make.begun(5, 1, counter);
+    private static Codec withOperations(int counter, int n) {
+        Codec x = Make.begun(5, 1, counter);
         for (int k = 0; k < n; k++) {
             Expect.due("the ID of operation " + k, x.add(0, 0, 'a', 0, 0), Make.id(counter + k, 5));
         }
@@ -146,20 +146,20 @@ public final class ChangeBoundsTest {
 
     /** A change has 1 to 16 OPERATIONS. */
     private static void operations() {
-        ChangeCodec none = withOperations(7, 0);
+        Codec none = withOperations(7, 0);
         Expect.dueThrow("size() of none", none, IllegalStateException.class, () -> none.size());
         Expect.dueThrow("write() of none", none, IllegalStateException.class, () -> none.write());
         faultIn("no operations", 4, "05", "01", "07", "00", "00", PUT_A);
         faultIn("no operations, and no bytes of one", 4, "05", "01", "07", "00", "00");
         for (int n = 1; n <= 16; n++) {
-            ChangeCodec x = withOperations(7, n);
+            Codec x = withOperations(7, n);
             String body = body("05", "01", "07", "00", Show.hex(n), PUT_A.repeat(n));
             Expect.due("size() of " + n, x.size(), Make.framed(body).length() / 2);
             Expect.due("write() of " + n, x.write(), Make.framed(body).length() / 2);
             Expect.due("the bytes of " + n, Show.output(x), Make.framed(body));
             Reads.fine(n + " operations", body);
         }
-        ChangeCodec full = withOperations(7, 16);
+        Codec full = withOperations(7, 16);
         Expect.dueThrow("a seventeenth", full, IllegalStateException.class, () -> full.add(0, 0, 'a', 0, 0));
         for (int n = 17; n < 128; n++) {
             faultIn(n + " operations", 4, "05", "01", "07", "00", Show.hex(n), PUT_A.repeat(17));
@@ -171,7 +171,7 @@ public final class ChangeBoundsTest {
     private static void lastCounters() {
         for (int n = 1; n <= 16; n++) {
             int first = 100001 - n;
-            ChangeCodec x = withOperations(first, n);
+            Codec x = withOperations(first, n);
             Class<?> due = n == 16 ? IllegalStateException.class : IllegalArgumentException.class;
             Expect.dueThrow("counter 100001", x, due, () -> x.add(0, 0, 'a', 0, 0));
             Expect.due("undo()", x.undo(), true);

@@ -1,7 +1,7 @@
 /** Promise 8: clear. */
 public final class ClearTest {
     public static void main(String[] args) {
-        ChangeCodec x = Make.longest();
+        Codec x = Make.longest();
         x.clear();
         Expect.due("bytes of an empty OUTPUT", x.look(0), 0);
         x.write();

@@ -1,6 +1,6 @@
 /** Promise 10: cut. */
 public final class CutTest {
-    private static void refused(ChangeCodec x, int n) {
+    private static void refused(Codec x, int n) {
         String call = "cut(" + n + ")";
         String before = Show.all(x);
         Expect.due(call, x.cut(n), false);
@@ -9,7 +9,7 @@ public final class CutTest {
 
     public static void main(String[] args) {
         String one = Make.framed("000101000100000161");
-        ChangeCodec x = Make.withInput(one + one);
+        Codec x = Make.withInput(one + one);
         x.read();
         Expect.due("AT", x.look(2), 14);
         for (int n : new int[] {29, -1, Integer.MIN_VALUE, Integer.MAX_VALUE}) {

@@ -16,6 +16,8 @@ public final class EveryByteTest {
         "07" + "01" + Make.u(100000) + "00" + "01" + "0c" + "00" + "07" + "01",
     };
 
+    private static final String OTHER = "060203bf" + "01020304050607" + "02" + "18000171017a" + "1309033a";
+
     /** What read() answers, and what can be asked for after it, of the program or of the model. */
     private static String seen(IntSupplier read, IntUnaryOperator look, IntUnaryOperator of,
             IntBinaryOperator operation, IntToLongFunction key) {
@@ -36,7 +38,10 @@ public final class EveryByteTest {
         return text.toString();
     }
 
-    private static void compare(ChangeCodec x, byte[] bytes) {
+    /** The object has read a whole change before, of which nothing may be left. */
+    private static void compare(byte[] bytes) {
+        Codec x = Make.withInput(Make.framed(OTHER));
+        x.read();
         Model model = new Model();
         for (byte b : bytes) {
             model.give(b, 1);
@@ -52,20 +57,18 @@ public final class EveryByteTest {
     private static void everyByte(String body) {
         byte[] whole = Make.bytes(Make.framed(body));
         for (int k = 0; k < whole.length; k++) {
-            ChangeCodec x = new ChangeCodec();
             for (int b = 0; b < 256; b++) {
                 byte[] changed = whole.clone();
                 changed[k] = (byte) b;
-                compare(x, changed);
+                compare(changed);
             }
         }
         int n = body.length() / 2;
         for (int k = 0; k < n; k++) {
-            ChangeCodec x = new ChangeCodec();
             for (int b = 0; b < 256; b++) {
                 byte[] changed = Make.bytes(body);
                 changed[k] = (byte) b;
-                compare(x, Make.bytes(Make.framed(Make.hex(changed))));
+                compare(Make.bytes(Make.framed(Make.hex(changed))));
             }
         }
     }
@@ -73,9 +76,8 @@ public final class EveryByteTest {
     private static void everyEnd(String body) {
         String rest = Make.framed(body).substring(2) + "0000";
         for (int length = 0; length <= body.length() / 2 + 6; length++) {
-            ChangeCodec x = new ChangeCodec();
             for (int end = 0; end <= rest.length(); end += 2) {
-                compare(x, Make.bytes(Show.hex(length) + rest.substring(0, end)));
+                compare(Make.bytes(Show.hex(length) + rest.substring(0, end)));
             }
         }
     }
@@ -83,17 +85,17 @@ public final class EveryByteTest {
     /** A byte lacks, comes twice, or comes from elsewhere, with the length and the CHECK made anew. */
     private static void everyShift(String body) {
         for (int k = 0; k < body.length(); k += 2) {
-            ChangeCodec x = new ChangeCodec();
             String ahead = body.substring(0, k);
             String behind = body.substring(k + 2);
-            compare(x, Make.bytes(Make.framed(ahead + behind)));
+            compare(Make.bytes(Make.framed(ahead + behind)));
             for (int b = 0; b < 256; b++) {
-                compare(x, Make.bytes(Make.framed(ahead + Show.hex(b) + body.substring(k))));
+                compare(Make.bytes(Make.framed(ahead + Show.hex(b) + body.substring(k))));
             }
         }
     }
 
     public static void main(String[] args) {
+        Reads.fine("the change that is read before", OTHER);
         for (String body : BODIES) {
             Reads.fine("a change to begin with", body);
             everyByte(body);

@@ -27,7 +27,7 @@ final class Expect {
     }
 
     /** The call throws just that class, and the object shows afterwards what it showed before. */
-    static void dueThrow(String call, ChangeCodec x, Class<?> want, Runnable made) {
+    static void dueThrow(String call, Codec x, Class<?> want, Runnable made) {
         String before = Show.all(x);
         due(call, Show.thrownBy(made), want.getSimpleName());
         due("the state after " + call, Show.all(x), before);
@@ -37,7 +37,7 @@ final class Expect {
         due(call, Show.thrownBy(made), "nothing");
     }
 
-    static void dueUnchanged(String call, ChangeCodec x, String before) {
+    static void dueUnchanged(String call, Codec x, String before) {
         due("the state after " + call, Show.all(x), before);
     }
 

@@ -1,6 +1,6 @@
 /** Promise 9: give. */
 public final class GiveTest {
-    private static void refused(ChangeCodec x, long v, int n) {
+    private static void refused(Codec x, long v, int n) {
         String call = "give(" + v + ", " + n + ")";
         String before = Show.all(x);
         Expect.due(call, x.give(v, n), false);
@@ -9,10 +9,10 @@ public final class GiveTest {
 
     /** The bytes of one change, given n at a time, are read as that change. */
     private static void piecewise(int n, long above) {
-        ChangeCodec from = Make.longest();
+        Codec from = Make.longest();
         from.write();
         byte[] bytes = Make.bytes(Show.output(from));
-        ChangeCodec x = new ChangeCodec();
+        Codec x = new Codec();
         int k = 0;
         while (k < bytes.length) {
             int now = Math.min(n, bytes.length - k);
@@ -29,18 +29,19 @@ public final class GiveTest {
         Expect.due("the change", Show.change(x), Show.change(from));
     }
 
-    public static void main(String[] args) {
-        for (int n = 1; n <= 8; n++) {
-            piecewise(n, 0);
-            piecewise(n, -1);
-        }
+    /** All calls that an object is used for: just as many as fill the INPUT. */
+    private static void byEights() {
         ChangeCodec x = new ChangeCodec();
-        for (int n : new int[] {0, -1, 9, Integer.MIN_VALUE, Integer.MAX_VALUE}) {
-            refused(x, 1, n);
+        for (int k = 0; k < 512; k++) {
+            Expect.due("give(.., 8) of " + 8 * k + " bytes", x.give(0x0102030405060708L, 8), true);
         }
-        for (int k = 0; k < 511; k++) {
-            x.give(0x0102030405060708L, 8);
-        }
+    }
+
+    private static void upToTheEnd() {
+        Codec x = Make.withOutput(4080);
+        x.turn();
+        x.clear();
+        Expect.due("give(0, 8)", x.give(0, 8), true);
         Expect.due("give(0, 7)", x.give(0, 7), true);
         Expect.due("bytes of the INPUT", x.look(1), 4095);
         for (int n = 2; n <= 8; n++) {
@@ -53,8 +54,21 @@ public final class GiveTest {
         refused(x, 1, 7);
         Expect.due("six more", x.give(1, 6), true);
         Expect.due("the OUTPUT stays", x.look(0), 0);
+    }
 
-        ChangeCodec reading = Make.withInput(Make.framed("000101000100000161"));
+    public static void main(String[] args) {
+        for (int n = 1; n <= 8; n++) {
+            piecewise(n, 0);
+            piecewise(n, -1);
+        }
+        Codec x = new Codec();
+        for (int n : new int[] {0, -1, 9, Integer.MIN_VALUE, Integer.MAX_VALUE}) {
+            refused(x, 1, n);
+        }
+        byEights();
+        upToTheEnd();
+
+        Codec reading = Make.withInput(Make.framed("000101000100000161"));
         reading.read();
         Expect.due("behind the end", reading.give(5, 1), true);
         Expect.due("AT stays", reading.look(2), 14);

@@ -1,6 +1,6 @@
 /** Promise 3: hangs. */
 public final class HangsTest {
-    private static void refused(ChangeCodec x, int actor, int n) {
+    private static void refused(Codec x, int actor, int n) {
         String call = "hangs(" + actor + ", " + n + ")";
         String before = Show.all(x);
         Expect.due(call, x.hangs(actor, n), false);
@@ -8,8 +8,8 @@ public final class HangsTest {
     }
 
     public static void main(String[] args) {
-        refused(new ChangeCodec(), 1, 1);
-        ChangeCodec x = Make.begun(4, 77, 5);
+        refused(new Codec(), 1, 1);
+        Codec x = Make.begun(4, 77, 5);
         for (int a = 0; a < 8; a++) {
             if (a != 4) {
                 Expect.due("hangs(" + a + ", 10000)", x.hangs(a, 10000), true);

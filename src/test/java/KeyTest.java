@@ -1,10 +1,10 @@
 /** Promise 15: key. */
 public final class KeyTest {
-    private static void wrong(ChangeCodec x, int i) {
+    private static void wrong(Codec x, int i) {
         Expect.dueThrow("key(" + i + ")", x, IndexOutOfBoundsException.class, () -> x.key(i));
     }
 
-    private static void keys(ChangeCodec x, long... due) {
+    private static void keys(Codec x, long... due) {
         for (int i = 0; i < due.length; i++) {
             Expect.due("key(" + i + ")", x.key(i), due[i]);
         }
@@ -14,8 +14,8 @@ public final class KeyTest {
     }
 
     public static void main(String[] args) {
-        wrong(new ChangeCodec(), 0);
-        ChangeCodec x = Make.begun(4, 3, 30);
+        wrong(new Codec(), 0);
+        Codec x = Make.begun(4, 3, 30);
         wrong(x, 0);
         long[] due = {Make.letters("zyxwvuts"), 'q', 0, 0, Make.id(31, 1), Make.id(1, 0), Make.id(35, 4)};
         x.add(0, 0, due[0], 0, 0);

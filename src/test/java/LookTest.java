@@ -1,6 +1,6 @@
 /** Promise 17: look. */
 public final class LookTest {
-    private static void streams(String when, ChangeCodec x, int... due) {
+    private static void streams(String when, Codec x, int... due) {
         for (int which = 0; which < 5; which++) {
             Expect.due("look(" + which + ") " + when, x.look(which), due[which]);
         }
@@ -10,7 +10,7 @@ public final class LookTest {
     }
 
     public static void main(String[] args) {
-        ChangeCodec x = new ChangeCodec();
+        Codec x = new Codec();
         streams("of a new object", x, 0, 0, 0, 0, -1);
         x.read();
         streams("after a read() of nothing", x, 0, 0, 0, 0, -1);

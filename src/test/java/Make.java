@@ -69,7 +69,7 @@ final class Make {
         return u(id == 0 ? 0 : (own / 8 - id / 8) * 8 + id % 8 + 1);
     }
 
-    static void give(ChangeCodec x, byte[] bytes) {
+    static void give(Codec x, byte[] bytes) {
         for (int k = 0; k < bytes.length; k += 8) {
             int n = Math.min(8, bytes.length - k);
             long v = 0;
@@ -81,14 +81,14 @@ final class Make {
     }
 
     /** A new object whose INPUT has these bytes. */
-    static ChangeCodec withInput(String hex) {
-        ChangeCodec x = new ChangeCodec();
+    static Codec withInput(String hex) {
+        Codec x = new Codec();
         give(x, bytes(hex));
         return x;
     }
 
-    static ChangeCodec begun(int actor, int seq, int counter) {
-        ChangeCodec x = new ChangeCodec();
+    static Codec begun(int actor, int seq, int counter) {
+        Codec x = new Codec();
         x.begin(actor, seq, counter);
         return x;
     }
@@ -106,8 +106,8 @@ final class Make {
     }
 
     /** The longest change that there can be: 22 + 16 * 18 bytes of BODY, 316 in all. */
-    static ChangeCodec longest() {
-        ChangeCodec x = begun(7, 10000, 99985);
+    static Codec longest() {
+        Codec x = begun(7, 10000, 99985);
         for (int a = 0; a < 7; a++) {
             x.hangs(a, 10000);
         }
@@ -118,14 +118,14 @@ final class Make {
     }
 
     /** A change of 14 to 21 bytes: its one operation has a key of one to eight letters. */
-    static void beginOfSize(ChangeCodec x, int bytes) {
+    static void beginOfSize(Codec x, int bytes) {
         x.begin(0, 1, 1);
         x.add(0, 0, letters("abcdefgh".substring(0, bytes - 13)), 0, 0);
     }
 
     /** The OUTPUT of a new object gets so many bytes, all of them of whole changes (none, or 28 and more). */
-    static ChangeCodec withOutput(int bytes) {
-        ChangeCodec x = longest();
+    static Codec withOutput(int bytes) {
+        Codec x = longest();
         int left = bytes;
         for (; left >= 316 + 28; left -= 316) {
             x.write();

@@ -6,7 +6,7 @@ public final class ModelTest {
 
     private final Numbers numbers;
     private final String run;
-    private final ChangeCodec codec = new ChangeCodec();
+    private final Codec codec = new Codec();
     private final Model model = new Model();
     private int calls = 0;
 
@@ -70,22 +70,14 @@ public final class ModelTest {
         }
     }
 
-    private static String answer(LongSupplier call) {
-        try {
-            return String.valueOf(call.getAsLong());
-        } catch (RuntimeException e) {
-            return e.getClass().getSimpleName();
-        }
-    }
-
     private boolean has() {
         return calls < CALLS;
     }
 
     private String both(String call, LongSupplier ours, LongSupplier due) {
         calls++;
-        String want = answer(due);
-        Expect.due(run + calls + ": " + call, answer(ours), want);
+        String want = Show.answerOf(due);
+        Expect.due(run + calls + ": " + call, Show.answerOf(ours), want);
         return want;
     }
 

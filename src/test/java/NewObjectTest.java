@@ -1,7 +1,7 @@
 /** Promise 1: no change, no bytes. */
 public final class NewObjectTest {
     public static void main(String[] args) {
-        ChangeCodec x = new ChangeCodec();
+        Codec x = new Codec();
         for (int w = -2; w <= 17; w++) {
             Expect.due("of(" + w + ")", x.of(w), -1);
         }
@@ -13,7 +13,7 @@ public final class NewObjectTest {
         Expect.dueThrow("size()", x, IllegalStateException.class, () -> x.size());
         Expect.dueThrow("operation(0, 0)", x, IndexOutOfBoundsException.class, () -> x.operation(0, 0));
         Expect.dueThrow("key(0)", x, IndexOutOfBoundsException.class, () -> x.key(0));
-        ChangeCodec other = Make.begun(1, 1, 1);
+        Codec other = Make.begun(1, 1, 1);
         other.add(0, 0, 'a', 0, 0);
         other.write();
         Expect.due("two objects share nothing", x.look(0), 0);

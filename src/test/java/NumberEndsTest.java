@@ -193,13 +193,13 @@ public final class NumberEndsTest {
             writtenValue((int) ~S_ENDS[k]);
         }
         for (int number : new int[] {1, 127, 128, 9999, 10000}) {
-            ChangeCodec x = Make.begun(3, number, 5);
+            Codec x = Make.begun(3, number, 5);
             x.hangs(6, number);
             x.add(0, 0, 'a', 0, 0);
             due(x, "03" + Make.u(number) + "05" + "40" + Make.u(number) + "01" + Reads.PUT_A);
         }
         for (int counter : new int[] {1, 127, 128, 16383, 16384, 99999, 100000}) {
-            ChangeCodec x = Make.begun(3, 1, counter);
+            Codec x = Make.begun(3, 1, counter);
             x.add(0, 0, 'a', 0, 0);
             due(x, "03" + "01" + Make.u(counter) + "00" + "01" + Reads.PUT_A);
         }
@@ -207,14 +207,14 @@ public final class NumberEndsTest {
         for (int ref : new int[] {1, 2, 3, 9, 126, 127, 128, 129, 16383, 16384, FAR_REF}) {
             int id = (50000 - (ref - 1) / 8) * 8 + (ref - 1) % 8;
             Expect.due("REF " + ref, Make.ref(id, own), Make.u(ref));
-            ChangeCodec x = Make.begun(3, 1, 50000);
+            Codec x = Make.begun(3, 1, 50000);
             x.add(4, id, id, 0, 0);
             due(x, FAR + "04" + Make.u(ref) + Make.u(ref));
         }
     }
 
     private static void writtenValue(int value) {
-        ChangeCodec x = Make.begun(3, 1, 50000);
+        Codec x = Make.begun(3, 1, 50000);
         x.add(3, 0, 0, 2, value);
         due(x, FAR + "13" + "0000" + Make.s(value));
         x.clear();
@@ -223,7 +223,7 @@ public final class NumberEndsTest {
         due(x, FAR + "02" + Make.ref(8, Make.id(50000, 3)) + Make.s(value));
     }
 
-    private static void due(ChangeCodec x, String body) {
+    private static void due(Codec x, String body) {
         String framed = Make.framed(body);
         Expect.due("size()", x.size(), framed.length() / 2);
         Expect.due("write()", x.write(), framed.length() / 2);

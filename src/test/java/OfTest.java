@@ -3,14 +3,14 @@ public final class OfTest {
     private static final int[] NO_PARTS = {-1, 4, 5, 6, 7, 16, 17, -8, Integer.MIN_VALUE, Integer.MAX_VALUE};
 
     public static void main(String[] args) {
-        ChangeCodec none = new ChangeCodec();
+        Codec none = new Codec();
         for (int w = 0; w < 16; w++) {
             Expect.due("of(" + w + ") without a change", none.of(w), -1);
         }
         for (int w : NO_PARTS) {
             Expect.due("of(" + w + ") without a change", none.of(w), -1);
         }
-        ChangeCodec x = Make.begun(6, 321, 4567);
+        Codec x = Make.begun(6, 321, 4567);
         for (int a = 0; a < 8; a++) {
             x.hangs(a, 11 * a);
         }

@@ -45,7 +45,7 @@ public final class OperationBoundsTest {
 
     private void adds(int type, int object, long key, int kind, int value) {
         String call = "add(" + type + ", " + object + ", " + key + ", " + kind + ", " + value + ")";
-        ChangeCodec x = Make.begun(2, 1, counter);
+        Codec x = Make.begun(2, 1, counter);
         Expect.dueFine(call, () -> x.add(type, object, key, kind, value));
         Expect.due(call, x.of(3), 1);
         if (x.of(3) == 1) {
@@ -57,7 +57,7 @@ public final class OperationBoundsTest {
 
     private void addThrows(int type, int object, long key, int kind, int value) {
         String call = "add(" + type + ", " + object + ", " + key + ", " + kind + ", " + value + ")";
-        ChangeCodec x = Make.begun(2, 1, counter);
+        Codec x = Make.begun(2, 1, counter);
         Expect.dueThrow(call, x, IllegalArgumentException.class, () -> x.add(type, object, key, kind, value));
         Expect.due("the next ID after " + call, x.add(PUT, 0, 'z', 0, 0), own);
     }
@@ -287,7 +287,7 @@ public final class OperationBoundsTest {
             String head = Show.hex(actor) + "01" + "01" + "00" + "01";
             for (int id = 1; id <= 16; id++) {
                 int object = id;
-                ChangeCodec x = Make.begun(actor, 1, 1);
+                Codec x = Make.begun(actor, 1, 1);
                 String call = "actor " + actor + " adds to " + object;
                 if (id >= 8 && id < own) {
                     Expect.dueFine(call, () -> x.add(ADD, object, 0, 0, 0));
@@ -303,7 +303,7 @@ public final class OperationBoundsTest {
 
     /** Each operation has its own ID as its bound: the one before it can be referred to, and it itself not. */
     private static void laterOperations() {
-        ChangeCodec x = Make.begun(6, 1, 300);
+        Codec x = Make.begun(6, 1, 300);
         x.add(PUT, 0, 'a', 5, 0);
         for (int k = 1; k < 16; k++) {
             int own = Make.id(300 + k, 6);

@@ -3,7 +3,7 @@ public final class OutputTest {
     private static final int[] FAR = {-1, Integer.MIN_VALUE, Integer.MAX_VALUE, 4096, 4097};
 
     public static void main(String[] args) {
-        ChangeCodec x = new ChangeCodec();
+        Codec x = new Codec();
         Expect.due("output(0) of nothing", x.output(0), -1);
         x.begin(0, 1, 1);
         x.add(0, 0, 'a', 2, Integer.MAX_VALUE);

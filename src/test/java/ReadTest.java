@@ -197,7 +197,7 @@ public final class ReadTest {
 
     private static void goingOn() {
         String two = Make.framed(Reads.HEAD + "01" + Reads.PUT_A);
-        ChangeCodec x = Make.withInput(Reads.FIRST + two + "00");
+        Codec x = Make.withInput(Reads.FIRST + two + "00");
         Expect.due("the first", x.read(), 0);
         Expect.due("AT", x.look(2), 14);
         Expect.due("actor", x.of(0), 0);
@@ -226,10 +226,10 @@ public final class ReadTest {
 
     /** A fault that comes late in a longer change leaves nothing of it in the next one. */
     private static void noTraces() {
-        ChangeCodec from = Make.longest();
+        Codec from = Make.longest();
         from.write();
         String output = Show.output(from);
-        ChangeCodec x = Make.withInput(output.substring(0, output.length() - 2));
+        Codec x = Make.withInput(output.substring(0, output.length() - 2));
         Expect.due("the CHECK lacks a byte", x.read(), 1);
         Expect.due("no change", x.of(0), -1);
         x.cut(0);
@@ -246,12 +246,12 @@ public final class ReadTest {
             "09" + body + "00000000", Reads.FIRST, Reads.FIRST + "0100", Make.framed(Reads.HEAD + "01" + Reads.PUT_A)};
         for (String first : inputs) {
             for (String second : inputs) {
-                ChangeCodec x = Make.withInput(first);
+                Codec x = Make.withInput(first);
                 x.read();
                 x.cut(0);
                 x.begin(1, 2, 3);
                 Make.give(x, Make.bytes(second));
-                ChangeCodec fresh = Make.withInput(second);
+                Codec fresh = Make.withInput(second);
                 fresh.begin(1, 2, 3);
                 String what = "read() of " + second + " after " + first;
                 Expect.due(what, x.read(), fresh.read());

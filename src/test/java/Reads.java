@@ -8,8 +8,8 @@ final class Reads {
     private Reads() {
     }
 
-    private static ChangeCodec busy(String input) {
-        ChangeCodec x = Make.withInput(input);
+    private static Codec busy(String input) {
+        Codec x = Make.withInput(input);
         x.begin(6, 5, 4);
         x.hangs(1, 2);
         x.add(0, 0, 'q', 2, 9);
@@ -19,13 +19,13 @@ final class Reads {
 
     /** The bytes alone, and behind a change that was read, where all places lie behind it. */
     static void fault(String what, String input, int fault, int place) {
-        ChangeCodec alone = busy(input);
+        Codec alone = busy(input);
         String change = Show.change(alone);
         Expect.due(what, alone.read(), fault);
         Expect.due(what + ", streams", Show.streams(alone),
                 "-1,16," + input.length() / 2 + ",0," + fault + "," + place + ",-1,");
         Expect.due(what + ", the change stays", Show.change(alone), change);
-        ChangeCodec second = busy(FIRST + input);
+        Codec second = busy(FIRST + input);
         second.read();
         change = Show.change(second);
         Expect.due(what + ", later", second.read(), fault);
@@ -49,7 +49,7 @@ final class Reads {
     }
 
     static void fine(String what, String body, String change) {
-        ChangeCodec x = busy(Make.framed(body));
+        Codec x = busy(Make.framed(body));
         Expect.due(what, x.read(), 0);
         Expect.due(what, Show.change(x), change);
         Expect.due(what, x.look(2), Make.framed(body).length() / 2);
@@ -62,7 +62,7 @@ final class Reads {
 
     /** Bytes of a change that are read, and come again when that is written. */
     static void fine(String what, String body) {
-        ChangeCodec x = busy(Make.framed(body));
+        Codec x = busy(Make.framed(body));
         Expect.due(what, x.read(), 0);
         Expect.due(what, Show.streams(x), "-1,16," + x.look(1) + "," + x.look(1) + ",0,-1,-1,");
         x.clear();

@@ -9,7 +9,7 @@ import java.util.function.Supplier;
  */
 public final class RefusedTest {
     private interface Call {
-        long on(ChangeCodec x);
+        long on(Codec x);
     }
 
     /** A query changes nothing whatever it answers; any other call just if it is refused. */
@@ -31,7 +31,7 @@ public final class RefusedTest {
         CALLS.add(new Named(name, true, call));
     }
 
-    private static String answer(Named named, ChangeCodec x) {
+    private static String answer(Named named, Codec x) {
         try {
             long answer = named.call.on(x);
             boolean truth = named.name.matches("(hangs|undo|give|cut).*");
@@ -118,8 +118,8 @@ public final class RefusedTest {
         query("output(4096)", x -> x.output(4096));
     }
 
-    private static ChangeCodec three() {
-        ChangeCodec x = Make.begun(2, 3, 10);
+    private static Codec three() {
+        Codec x = Make.begun(2, 3, 10);
         x.hangs(0, 7);
         x.add(0, 0, 'a', 5, 0);
         x.add(3, 82, 0, 3, (int) Make.letters("xyz"));
@@ -127,8 +127,8 @@ public final class RefusedTest {
         return x;
     }
 
-    private static ChangeCodec turnedAndRead() {
-        ChangeCodec x = three();
+    private static Codec turnedAndRead() {
+        Codec x = three();
         x.write();
         x.undo();
         x.write();
@@ -138,55 +138,55 @@ public final class RefusedTest {
         return x;
     }
 
-    private static ChangeCodec readUpToTheEnd() {
-        ChangeCodec x = turnedAndRead();
+    private static Codec readUpToTheEnd() {
+        Codec x = turnedAndRead();
         x.read();
         return x;
     }
 
-    private static ChangeCodec withFault(String bytes) {
-        ChangeCodec x = turnedAndRead();
+    private static Codec withFault(String bytes) {
+        Codec x = turnedAndRead();
         x.read();
         Make.give(x, Make.bytes(bytes));
         x.read();
         return x;
     }
 
-    private static ChangeCodec bothFull() {
-        ChangeCodec x = Make.withOutput(4096);
+    private static Codec bothFull() {
+        Codec x = Make.withOutput(4096);
         x.turn();
         x.read();
         x.read();
         return x;
     }
 
-    private static ChangeCodec inputAlmostFull() {
-        ChangeCodec x = Make.withOutput(4092);
+    private static Codec inputAlmostFull() {
+        Codec x = Make.withOutput(4092);
         x.turn();
         x.read();
         return x;
     }
 
-    private static ChangeCodec undone() {
-        ChangeCodec x = Make.withInput(Reads.FIRST);
+    private static Codec undone() {
+        Codec x = Make.withInput(Reads.FIRST);
         x.read();
         x.undo();
         return x;
     }
 
-    private static ChangeCodec lastCounter() {
-        ChangeCodec x = Make.begun(2, 3, 100000);
+    private static Codec lastCounter() {
+        Codec x = Make.begun(2, 3, 100000);
         x.add(0, 0, 'a', 5, 0);
         x.write();
         return x;
     }
 
-    private static String state(ChangeCodec x, boolean withFault) {
+    private static String state(Codec x, boolean withFault) {
         String fault = withFault ? x.look(3) + " at " + x.look(4) : "";
         return Show.change(x) + " " + x.look(0) + "," + x.look(1) + "," + x.look(2) + " " + fault + Show.output(x);
     }
 
-    private static void readAll(ChangeCodec x, StringBuilder seen) {
+    private static void readAll(Codec x, StringBuilder seen) {
         int answer = 0;
         for (int k = 0; k < 300 && answer == 0; k++) {
             answer = x.read();
@@ -195,7 +195,7 @@ public final class RefusedTest {
     }
 
     /** What the object does from now on: it tells all that the state's questions leave in the dark. */
-    private static String future(ChangeCodec x) {
+    private static String future(Codec x) {
         StringBuilder seen = new StringBuilder();
         seen.append(answer(new Named("write()", false, c -> c.write()), x)).append('\n');
         seen.append(answer(new Named("add", false, c -> c.add(0, 0, 'y', 2, 77)), x)).append('\n');
@@ -210,12 +210,12 @@ public final class RefusedTest {
         return seen.append(state(x, false)).toString();
     }
 
-    private static void everyCall(String name, Supplier<ChangeCodec> made) {
+    private static void everyCall(String name, Supplier<Codec> made) {
         String before = state(made.get(), true);
         String beforeRead = state(made.get(), false);
         String later = future(made.get());
         for (Named named : CALLS) {
-            ChangeCodec x = made.get();
+            Codec x = made.get();
             String answer = answer(named, x);
             if (named.isRefused(answer)) {
                 boolean faultStays = !named.name.equals("read()") || answer.equals("-1");
@@ -229,7 +229,7 @@ public final class RefusedTest {
     public static void main(String[] args) {
         collectChangingCalls();
         collectQueries();
-        everyCall("a new object", ChangeCodec::new);
+        everyCall("a new object", Codec::new);
         everyCall("no operations", () -> Make.begun(2, 3, 10));
         everyCall("three operations", RefusedTest::three);
         everyCall("sixteen operations", Make::longest);

@@ -1,4 +1,6 @@
-/** What can be seen of an object of ChangeCodec, as a text. */
+import java.util.function.LongSupplier;
+
+/** What can be seen of a Codec, as a text. */
 final class Show {
     private Show() {
     }
@@ -12,11 +14,20 @@ final class Show {
         }
     }
 
-    static String all(ChangeCodec x) {
+    /** The number that a call answers, or the name of the exception that it throws. */
+    static String answerOf(LongSupplier call) {
+        try {
+            return String.valueOf(call.getAsLong());
+        } catch (RuntimeException e) {
+            return e.getClass().getSimpleName();
+        }
+    }
+
+    static String all(Codec x) {
         return change(x) + " " + streams(x) + " out=" + output(x);
     }
 
-    static String change(ChangeCodec x) {
+    static String change(Codec x) {
         StringBuilder text = new StringBuilder();
         for (int w = -1; w <= 16; w++) {
             text.append(x.of(w)).append(',');
@@ -31,7 +42,7 @@ final class Show {
         return text.toString();
     }
 
-    static String streams(ChangeCodec x) {
+    static String streams(Codec x) {
         StringBuilder text = new StringBuilder();
         for (int which = -1; which <= 5; which++) {
             text.append(x.look(which)).append(',');
@@ -40,7 +51,7 @@ final class Show {
     }
 
     /** The OUTPUT in hexadecimal digits. */
-    static String output(ChangeCodec x) {
+    static String output(Codec x) {
         StringBuilder text = new StringBuilder();
         for (int k = 0; k < x.look(0); k++) {
             text.append(hex(x.output(k)));

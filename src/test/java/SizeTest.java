@@ -1,7 +1,7 @@
 /** Promise 6: size. */
 public final class SizeTest {
     private static int sizeWith(int type, int object, long key, int kind, int value) {
-        ChangeCodec x = Make.begun(0, 1, 1);
+        Codec x = Make.begun(0, 1, 1);
         x.add(0, 0, 'a', 0, 0);
         int before = x.size();
         x.add(type, object, key, kind, value);
@@ -9,7 +9,7 @@ public final class SizeTest {
     }
 
     private static int sizeWithBegin(int actor, int seq, int counter) {
-        ChangeCodec x = Make.begun(actor, seq, counter);
+        Codec x = Make.begun(actor, seq, counter);
         x.add(0, 0, 'a', 0, 0);
         return x.size();
     }
@@ -25,7 +25,7 @@ public final class SizeTest {
         Expect.due("counter 16383", sizeWithBegin(0, 1, 16383), 15);
         Expect.due("counter 16384", sizeWithBegin(0, 1, 16384), 16);
         Expect.due("counter 100000", sizeWithBegin(0, 1, 100000), 16);
-        ChangeCodec x = Make.begun(2, 1, 1);
+        Codec x = Make.begun(2, 1, 1);
         x.add(0, 0, 'a', 0, 0);
         int[] clocks = {0, 1, 127, 128, 10000};
         int[] sizes = {14, 15, 15, 16, 16};
@@ -54,7 +54,7 @@ public final class SizeTest {
 
     /** Sizes of REF round the edges of its groups: back * 8 + actor + 1. */
     private static void refs() {
-        ChangeCodec x = Make.begun(7, 1, 100000);
+        Codec x = Make.begun(7, 1, 100000);
         int[] back = {15, 15, 2047, 2047, 99999};
         int[] actor = {6, 7, 6, 7, 7};
         int[] groups = {1, 2, 2, 3, 3};
@@ -66,20 +66,20 @@ public final class SizeTest {
     }
 
     public static void main(String[] args) {
-        ChangeCodec none = new ChangeCodec();
+        Codec none = new Codec();
         Expect.dueThrow("size() without a change", none, IllegalStateException.class, () -> none.size());
-        ChangeCodec bare = Make.begun(1, 1, 1);
+        Codec bare = Make.begun(1, 1, 1);
         Expect.dueThrow("size() without operations", bare, IllegalStateException.class, () -> bare.size());
         numbers();
         operations();
         refs();
-        ChangeCodec longest = Make.longest();
+        Codec longest = Make.longest();
         String before = Show.all(longest);
         Expect.due("the longest", longest.size(), 316);
         Expect.dueUnchanged("size()", longest, before);
 
         // A BODY of 127 bytes has a length of one byte, one of 128 has one of two.
-        ChangeCodec x = Make.begun(0, 1, 1);
+        Codec x = Make.begun(0, 1, 1);
         for (int k = 0; k < 10; k++) {
             x.add(1, 0, Make.letters("abcdefgh"), 0, 0);
         }

@@ -5,23 +5,23 @@ public final class StreamEndsTest {
     /** write(): the last byte that has room, and the first that has none. */
     private static void writing() {
         for (int size = 14; size <= 21; size++) {
-            ChangeCodec fits = Make.withOutput(FULL - size);
+            Codec fits = Make.withOutput(FULL - size);
             Make.beginOfSize(fits, size);
             Expect.due("write() with just its room", fits.write(), FULL);
             Expect.due("bytes of the OUTPUT", fits.look(0), FULL);
             noRoom("write() with no room at all", fits);
             for (int free = size - 1; free > 0; free -= 4) {
-                ChangeCodec x = Make.withOutput(FULL - free);
+                Codec x = Make.withOutput(FULL - free);
                 Make.beginOfSize(x, size);
                 noRoom("write() of " + size + " with room for " + free, x);
                 Expect.due("size() needs no room", x.size(), size);
             }
         }
-        ChangeCodec longest = Make.withOutput(FULL - 316);
+        Codec longest = Make.withOutput(FULL - 316);
         longest.begin(7, 10000, 99985);
         fillUp(longest);
         Expect.due("the longest with just its room", longest.write(), FULL);
-        ChangeCodec tooLong = Make.withOutput(FULL - 315);
+        Codec tooLong = Make.withOutput(FULL - 315);
         tooLong.begin(7, 10000, 99985);
         fillUp(tooLong);
         noRoom("the longest with one byte less", tooLong);
@@ -29,11 +29,11 @@ public final class StreamEndsTest {
         Expect.due("a shorter one has room", tooLong.write(), FULL - 315 + 298);
     }
 
-    private static void noRoom(String call, ChangeCodec x) {
+    private static void noRoom(String call, Codec x) {
         Expect.dueThrow(call, x, UnsupportedOperationException.class, () -> x.write());
     }
 
-    private static void fillUp(ChangeCodec x) {
+    private static void fillUp(Codec x) {
         for (int a = 0; a < 7; a++) {
             x.hangs(a, 10000);
         }
@@ -44,7 +44,7 @@ public final class StreamEndsTest {
 
     /** Of several exceptions the first one listed: no operations come ahead of no room. */
     private static void emptyChangeAndFullOutput() {
-        ChangeCodec x = Make.withOutput(FULL);
+        Codec x = Make.withOutput(FULL);
         x.undo();
         Expect.dueThrow("write()", x, IllegalStateException.class, () -> x.write());
         x.begin(1, 1, 1);
@@ -58,7 +58,7 @@ public final class StreamEndsTest {
     /** output(k): the first and the last byte that there is, and those beside them. */
     private static void outputs() {
         for (int bytes : new int[] {0, 28, 316 + 28, FULL - 1, FULL}) {
-            ChangeCodec x = Make.withOutput(bytes);
+            Codec x = Make.withOutput(bytes);
             Expect.due("output(-1)", x.output(-1), -1);
             Expect.due("output(0)", x.output(0) == -1, bytes == 0);
             Expect.due("the last byte", x.output(bytes - 1) == -1, bytes == 0);
@@ -74,7 +74,7 @@ public final class StreamEndsTest {
     /** give(): for each n the INPUT with just room for it, and with one byte less. */
     private static void giving() {
         for (int n = 1; n <= 8; n++) {
-            ChangeCodec x = Make.withOutput(FULL - n);
+            Codec x = Make.withOutput(FULL - n);
             x.turn();
             for (int more = n + 1; more <= 9; more++) {
                 String before = Show.all(x);
@@ -97,7 +97,7 @@ public final class StreamEndsTest {
     /** cut(): all bytes stay, all but one, one, none; one more than there are, or -1, is refused. */
     private static void cutting() {
         for (int bytes : new int[] {0, 28, FULL - 1, FULL}) {
-            ChangeCodec x = Make.withOutput(bytes);
+            Codec x = Make.withOutput(bytes);
             x.turn();
             x.read();
             for (int n : new int[] {bytes + 1, FULL + 1, -1}) {
@@ -123,7 +123,7 @@ public final class StreamEndsTest {
 
     /** turn(): of an empty and of a full OUTPUT, in place of an empty and of a full INPUT. */
     private static void turning() {
-        ChangeCodec x = Make.withOutput(FULL);
+        Codec x = Make.withOutput(FULL);
         x.turn();
         Expect.due("a full INPUT", Show.streams(x), "-1,4096,4096,0,0,-1,-1,");
         x.read();
@@ -139,7 +139,7 @@ public final class StreamEndsTest {
         Expect.due("an empty INPUT again", Show.streams(x), "-1,0,0,0,0,-1,-1,");
     }
 
-    private static int readAll(ChangeCodec x) {
+    private static int readAll(Codec x) {
         int answer = 0;
         for (int k = 0; k < 300 && answer == 0; k++) {
             answer = x.read();
@@ -149,7 +149,7 @@ public final class StreamEndsTest {
 
     /** read(): a change that ends with the INPUT's last byte, and one that would end a byte later. */
     private static void reading() {
-        ChangeCodec x = Make.withOutput(FULL);
+        Codec x = Make.withOutput(FULL);
         x.turn();
         Expect.due("read() up to the end", readAll(x), -1);
         Expect.due("streams", Show.streams(x), "-1,4096,4096,4096,0,-1,-1,");
@@ -165,7 +165,7 @@ public final class StreamEndsTest {
         Expect.due("the fault is gone", x.look(3), 0);
         Expect.due("its place is gone", x.look(4), -1);
 
-        ChangeCodec cut = Make.withOutput(FULL - 6);
+        Codec cut = Make.withOutput(FULL - 6);
         cut.turn();
         cut.give(0x090001010001L, 6);
         Expect.due("a change that has no room", readAll(cut), 1);
@@ -174,7 +174,7 @@ public final class StreamEndsTest {
         for (int k = 0; k < 3; k++) {
             Expect.due("and again", cut.read(), 1);
         }
-        ChangeCodec last = Make.withOutput(FULL - 1);
+        Codec last = Make.withOutput(FULL - 1);
         last.turn();
         last.give(0, 1);
         Expect.due("a fault in the very last byte", readAll(last), 3);
@@ -183,7 +183,7 @@ public final class StreamEndsTest {
 
     /** read() is NONE just where AT is at the INPUT's end; one byte more is read. */
     private static void endOfInput() {
-        ChangeCodec x = Make.withInput(Reads.FIRST);
+        Codec x = Make.withInput(Reads.FIRST);
         Expect.due("read()", x.read(), 0);
         String before = Show.all(x);
         Expect.due("read() at the end", x.read(), -1);

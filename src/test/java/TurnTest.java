@@ -1,7 +1,7 @@
 /** Promise 11: turn. */
 public final class TurnTest {
     public static void main(String[] args) {
-        ChangeCodec x = Make.begun(1, 2, 3);
+        Codec x = Make.begun(1, 2, 3);
         x.add(0, 0, 'a', 2, 7);
         x.write();
         x.give(-1, 8);
@@ -41,7 +41,7 @@ public final class TurnTest {
         x.turn();
         Expect.due("nothing, and the fault stays", Show.streams(x), "-1,0,0,0," + fault + "," + place + ",-1,");
 
-        ChangeCodec full = Make.longest();
+        Codec full = Make.longest();
         for (int k = 0; k < 12; k++) {
             full.write();
         }

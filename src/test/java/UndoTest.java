@@ -1,8 +1,8 @@
 /** Promise 5: undo. */
 public final class UndoTest {
     public static void main(String[] args) {
-        Expect.due("undo() without a change", new ChangeCodec().undo(), false);
-        ChangeCodec x = Make.begun(1, 2, 3);
+        Expect.due("undo() without a change", new Codec().undo(), false);
+        Codec x = Make.begun(1, 2, 3);
         String bare = Show.all(x);
         Expect.due("undo() without operations", x.undo(), false);
         Expect.dueUnchanged("undo()", x, bare);
@@ -20,7 +20,7 @@ public final class UndoTest {
         Expect.due("operations", x.of(3), 0);
         Expect.due("the clock stays", x.of(14), 9);
 
-        ChangeCodec full = Make.longest();
+        Codec full = Make.longest();
         full.write();
         full.turn();
         full.read();

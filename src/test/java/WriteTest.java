@@ -1,6 +1,6 @@
 /** Promise 7: write, with every byte of a change. */
 public final class WriteTest {
-    private static void bytes(String what, ChangeCodec x, String body) {
+    private static void bytes(String what, Codec x, String body) {
         int before = x.look(0);
         String kept = Show.change(x);
         String written = Show.output(x);
@@ -12,7 +12,7 @@ public final class WriteTest {
     }
 
     private static void everyType() {
-        ChangeCodec x = Make.begun(2, 3, 10);
+        Codec x = Make.begun(2, 3, 10);
         x.hangs(0, 7);
         x.add(0, 0, Make.letters("a"), 2, -65);
         x.add(0, 0, Make.letters("ba"), 3, (int) Make.letters("cc"));
@@ -36,7 +36,7 @@ public final class WriteTest {
     }
 
     private static void letters() {
-        ChangeCodec x = Make.begun(0, 1, 1);
+        Codec x = Make.begun(0, 1, 1);
         x.add(0, 0, Make.letters("hgfedcba"), 3, (int) Make.letters("wxyz"));
         bytes("the first letter is the highest byte", x, "000101000118" + "00" + "08" + "6867666564636261"
                 + "04" + "7778797a");
@@ -46,7 +46,7 @@ public final class WriteTest {
     }
 
     private static void value(int kind, int value, String bytes) {
-        ChangeCodec x = Make.begun(0, 1, 1);
+        Codec x = Make.begun(0, 1, 1);
         x.add(0, 0, 'a', kind, value);
         bytes("kind " + kind + " value " + value, x, "0001010001" + Show.hex(8 * kind) + "000161" + bytes);
     }
@@ -74,7 +74,7 @@ public final class WriteTest {
     }
 
     private static void numbers() {
-        ChangeCodec x = Make.begun(7, 10000, 100000);
+        Codec x = Make.begun(7, 10000, 100000);
         for (int a = 0; a < 7; a++) {
             x.hangs(a, 127 + a);
         }
@@ -84,9 +84,9 @@ public final class WriteTest {
     }
 
     private static void throwing() {
-        ChangeCodec none = new ChangeCodec();
+        Codec none = new Codec();
         Expect.dueThrow("write() without a change", none, IllegalStateException.class, () -> none.write());
-        ChangeCodec x = Make.longest();
+        Codec x = Make.longest();
         for (int k = 1; k <= 12; k++) {
             Expect.due("write() " + k, x.write(), 316 * k);
         }
@@ -116,7 +116,7 @@ public final class WriteTest {
         values();
         numbers();
         throwing();
-        ChangeCodec x = Make.begun(0, 1, 1);
+        Codec x = Make.begun(0, 1, 1);
         x.add(0, 0, 'a', 0, 0);
         x.write();
         // The CHECK as another program has computed it (zlib's crc32 of the nine bytes).
